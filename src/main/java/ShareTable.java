@@ -100,7 +100,7 @@ public final class ShareTable {
         if (what == 0) {
             return now.brokenLaw();
         }
-        return now.isGood() ? NONE : now.placeOfBreak(what);
+        return now.brokenLaw() == 0 ? NONE : now.placeOfBreak(what);
     }
 
     public int rows() {
@@ -163,26 +163,24 @@ public final class ShareTable {
     }
 
     public int fuses() {
-        Groupings groupings = history.now().groupings();
+        Groupings groupings = withPartitions();
         return groupings == null ? NONE : groupings.partitionCount();
     }
 
     public int fusing(int i, int thing) {
-        Table now = history.now();
-        Groupings groupings = now.groupings();
-        if (groupings == null || !groupings.hasPartition(i) || !now.has(thing)) {
+        Groupings groupings = withPartitions();
+        if (groupings == null || !groupings.hasPartition(i) || !history.now().has(thing)) {
             return NONE;
         }
         return groupings.classOf(i, thing);
     }
 
     public int fuse(int i) {
-        Table now = history.now();
-        Groupings groupings = now.groupings();
+        Groupings groupings = withPartitions();
         if (groupings == null || !groupings.hasPartition(i)) {
             return NONE;
         }
-        return take(Maker.fusedBy(now, groupings, i));
+        return take(Maker.fusedBy(history.now(), groupings, i));
     }
 
     public int wreath(int mark) {
@@ -274,6 +272,16 @@ public final class ShareTable {
         }
     }
 
+    /** null: not GOOD. */
+    private Groupings withPartitions() {
+        Groupings groupings = history.now().groupings();
+        if (groupings != null) {
+            groupings.findPartitions();
+        }
+        return groupings;
+    }
+
+    /** Makes it the TABLE, unless it is REFUSED. */
     private int take(Table made) {
         if (made == null) {
             return NONE;
@@ -440,7 +448,7 @@ public final class ShareTable {
         }
 
         int reverse(int thing) {
-            return has(thing) ? reverses[thing] : 0;
+            return thing >= 0 && thing < things ? reverses[thing] : 0;
         }
 
         void putReverse(int thing, int reverse) {
@@ -450,7 +458,7 @@ public final class ShareTable {
         }
 
         int size(int thing) {
-            return share(thing, reverse(thing), 0);
+            return thing >= 0 && thing < things ? shares[(thing * MOST_THINGS + reverses[thing]) * MOST_THINGS] : 0;
         }
 
         int allSizes() {
@@ -484,17 +492,13 @@ public final class ShareTable {
             }
         }
 
-        boolean isGood() {
-            return brokenLaw() == 0;
-        }
-
         boolean isSmall() {
-            return isGood() && allSizes() <= MOST_ORDER_OF_SMALL;
+            return brokenLaw() == 0 && allSizes() <= MOST_ORDER_OF_SMALL;
         }
 
         /** null: not SMALL. */
         RowSet rowSet() {
-            if (rowSet == null && isSmall()) {
+            if (rowSet == null && brokenLaw() == 0 && allSizes() <= MOST_ORDER_OF_SMALL) {
                 rowSet = new RowSet(this);
             }
             return rowSet;
@@ -502,7 +506,7 @@ public final class ShareTable {
 
         /** null: not GOOD. */
         Groupings groupings() {
-            if (groupings == null && isGood()) {
+            if (groupings == null && brokenLaw() == 0) {
                 groupings = new Groupings(this);
             }
             return groupings;
@@ -579,7 +583,9 @@ public final class ShareTable {
         private final boolean[] possible = new boolean[MOST_TRIALS];
         private final int[] trial = new int[MOST_THINGS];
         private final long[] matrix = new long[MOST_PAIRS];
+        /** All SIZES multiplied: what is divided by some of them stays whole over it. */
         private final long common;
+        private final long[] commonBySize = new long[MOST_THINGS];
         private final int[] rowOf = new int[MOST_THINGS];
         private int found = 0;
         private boolean split = false;
@@ -593,6 +599,9 @@ public final class ShareTable {
                 product *= Math.max(1, table.size(i));
             }
             this.common = product;
+            for (int i = 0; i < things; i++) {
+                commonBySize[i] = product / Math.max(1, table.size(i));
+            }
             sift();
             trial[0] = 1;
             extend(1);
@@ -612,24 +621,25 @@ public final class ShareTable {
         }
 
         int number(int row, int thing) {
-            return has(row) && table.has(thing) ? numbers[row * MOST_THINGS + thing] : 0;
+            int spot = row * MOST_THINGS + thing;
+            return spot >= 0 && spot < MOST_PAIRS ? numbers[spot] : 0;
         }
 
         long countAbove(int row) {
-            return has(row) ? above[row] : NONE;
+            return row >= 0 && row < found ? above[row] : NONE;
         }
 
         long countBelow(int row) {
-            return has(row) ? below[row] : NONE;
+            return row >= 0 && row < found ? below[row] : NONE;
         }
 
         long dualAbove(int a, int b, int c) {
             long up = dualUp(a, b, c);
-            return up / commonDivisor(up, dualDown());
+            return lowered(up, commonDivisor(up, dualDown()));
         }
 
         long dualBelow(int a, int b, int c) {
-            return dualDown() / commonDivisor(dualUp(a, b, c), dualDown());
+            return lowered(dualDown(), commonDivisor(dualUp(a, b, c), dualDown()));
         }
 
         boolean isOwnTwin() {
@@ -802,27 +812,22 @@ public final class ShareTable {
                 long up = table.allSizes() * common;
                 long down = 0;
                 for (int i = 0; i < things; i++) {
-                    down += (long) number(row, i) * number(row, table.reverse(i)) * commonBySize(i);
+                    down += (long) number(row, i) * number(row, table.reverse(i)) * commonBySize[i];
                 }
                 long divisor = commonDivisor(up, down);
-                above[row] = up / divisor;
-                below[row] = down / divisor;
+                above[row] = lowered(up, divisor);
+                below[row] = lowered(down, divisor);
                 if (below[row] != 1) {
                     split = false;
                 }
             }
         }
 
-        private long commonBySize(int thing) {
-            int size = table.size(thing);
-            return size > 0 ? common / size : 0;
-        }
-
         private long dualUp(int a, int b, int c) {
             long sum = 0;
             for (int i = 0; i < things; i++) {
                 long product = (long) number(a, i) * number(b, i) * number(c, table.reverse(i));
-                sum += product * commonBySize(i) * commonBySize(i);
+                sum += product * commonBySize[i] * commonBySize[i];
             }
             return countAbove(a) * countAbove(b) * sum;
         }
@@ -831,7 +836,10 @@ public final class ShareTable {
             return table.allSizes() * common * common;
         }
 
-        /** Never 0, so that one may divide by it. */
+        private static long lowered(long number, long divisor) {
+            return divisor > 0 ? number / divisor : number;
+        }
+
         private static long commonDivisor(long a, long b) {
             long more = Math.abs(a);
             long less = Math.abs(b);
@@ -840,7 +848,7 @@ public final class ShareTable {
                 more = less;
                 less = rest;
             }
-            return more > 0 ? more : 1;
+            return more;
         }
     }
 
@@ -879,16 +887,19 @@ public final class ShareTable {
             return i >= 0 && i < partCount ? parts[i] : NONE;
         }
 
-        int partitionCount() {
+        void findPartitions() {
             if (partitionCount == NONE) {
                 partitionCount = 0;
                 extend(1, 0);
             }
+        }
+
+        int partitionCount() {
             return partitionCount;
         }
 
         boolean hasPartition(int i) {
-            return i >= 0 && i < partitionCount();
+            return i >= 0 && i < partitionCount;
         }
 
         int classOf(int i, int thing) {
@@ -898,7 +909,7 @@ public final class ShareTable {
         private boolean isClosed(int bits) {
             for (int i = 0; i < things; i++) {
                 for (int j = 0; j <= i; j++) {
-                    if ((bits >> i & bits >> j & 1) == 1 && !staysIn(bits, i, j)) {
+                    if (((bits >> i) & (bits >> j) & 1) == 1 && !staysIn(bits, i, j)) {
                         return false;
                     }
                 }
@@ -956,18 +967,11 @@ public final class ShareTable {
             for (int k = 0; k < things; k++) {
                 int own = trial[k];
                 int least = own >= 0 && own < MOST_THINGS ? leasts[own] : k;
-                if (least != k && !areGivenAlike(classes, least, k)) {
-                    return false;
-                }
-            }
-            return true;
-        }
-
-        private boolean areGivenAlike(int classes, int least, int k) {
-            for (int a = 0; a < classes; a++) {
-                for (int b = 0; b <= a; b++) {
-                    if (Maker.together(table, trial, a, b, k) != Maker.together(table, trial, a, b, least)) {
-                        return false;
+                for (int a = 0; a < classes && least != k; a++) {
+                    for (int b = 0; b <= a; b++) {
+                        if (Maker.together(table, trial, a, b, k) != Maker.together(table, trial, a, b, least)) {
+                            return false;
+                        }
                     }
                 }
             }
@@ -983,7 +987,7 @@ public final class ShareTable {
             int classes = 0;
             for (int i = 0; i < table.things(); i++) {
                 if ((placed >> i & 1) == 0) {
-                    int reached = reachedFrom(table, i, part) & ~placed | 1 << i;
+                    int reached = (reachedFrom(table, i, part) & ~placed) | 1 << i;
                     for (int k = 0; k < table.things(); k++) {
                         if ((reached >> k & 1) == 1) {
                             classOf[k] = classes;
@@ -1009,7 +1013,7 @@ public final class ShareTable {
         static Table wreathed(Table inner, Table outer) {
             int own = inner.things();
             int all = own + outer.things() - 1;
-            if (all > MOST_THINGS || !inner.isGood() || !outer.isGood()) {
+            if (all > MOST_THINGS || inner.brokenLaw() != 0 || outer.brokenLaw() != 0) {
                 return null;
             }
             Table made = new Table(all);
@@ -1271,18 +1275,27 @@ public final class ShareTable {
             if (fault != 0) {
                 return;
             }
-            while (behind < length && isBlank(signs[behind])) {
+            while (behind < length && (signs[behind] == 10 || signs[behind] == 32)) {
                 behind++;
             }
             place = behind;
+            char sign = place < length ? signs[place] : 0;
             if (place >= length) {
                 sort = END;
-            } else if (isLetter(signs[place])) {
-                takeLetters();
-            } else if (isDigit(signs[place])) {
-                takeDigits();
+            } else if (sign >= 'a' && sign <= 'z') {
+                takeRun('a', 'z');
+                sort = behind - place <= MOST_LETTERS ? WORD : WRONG;
+            } else if (sign >= '0' && sign <= '9') {
+                takeRun('0', '9');
+                sort = behind - place <= MOST_DIGITS ? NUMBER : WRONG;
             } else {
-                sort = SIGNS.indexOf(signs[place]) >= 0 ? SIGN : WRONG;
+                sort = SIGNS.indexOf(sign) >= 0 ? SIGN : WRONG;
+                behind++;
+            }
+        }
+
+        private void takeRun(char first, char last) {
+            while (behind < length && signs[behind] >= first && signs[behind] <= last) {
                 behind++;
             }
         }
@@ -1351,32 +1364,6 @@ public final class ShareTable {
             }
             return number;
         }
-
-        private void takeLetters() {
-            while (behind < length && isLetter(signs[behind])) {
-                behind++;
-            }
-            sort = behind - place <= MOST_LETTERS ? WORD : WRONG;
-        }
-
-        private void takeDigits() {
-            while (behind < length && isDigit(signs[behind])) {
-                behind++;
-            }
-            sort = behind - place <= MOST_DIGITS ? NUMBER : WRONG;
-        }
-
-        private static boolean isBlank(char sign) {
-            return sign == 10 || sign == 32;
-        }
-
-        private static boolean isLetter(char sign) {
-            return sign >= 'a' && sign <= 'z';
-        }
-
-        private static boolean isDigit(char sign) {
-            return sign >= '0' && sign <= '9';
-        }
     }
 
     /** Reads the TAPE as a TABLE. */
@@ -1406,7 +1393,13 @@ public final class ShareTable {
             last = things - 1;
             Table made = Table.withUnit(things);
             for (int line = 0; line < MOST_SIGNS && tokens.isFine() && !tokens.isEnd(); line++) {
-                readLine(made);
+                if (tokens.isWord("times")) {
+                    readTimes(made);
+                } else if (tokens.isWord("reverse")) {
+                    readReverse(made);
+                } else {
+                    tokens.fail(CANT_STAND);
+                }
             }
             return tokens.isFine() ? made : null;
         }
@@ -1415,16 +1408,6 @@ public final class ShareTable {
             reversed = 0;
             for (int i = 0; i < MOST_PAIRS; i++) {
                 told[i] = false;
-            }
-        }
-
-        private void readLine(Table made) {
-            if (tokens.isWord("times")) {
-                readTimes(made);
-            } else if (tokens.isWord("reverse")) {
-                readReverse(made);
-            } else {
-                tokens.fail(CANT_STAND);
             }
         }
 
@@ -1787,7 +1770,7 @@ public final class ShareTable {
                     seen |= 1 << colour;
                 }
             }
-            return (seen & seen + 1) == 0 ? Integer.bitCount(seen) : NONE;
+            return (seen & (seen + 1)) == 0 ? Integer.bitCount(seen) : NONE;
         }
 
         private boolean zeroIsSame() {
