@@ -163,20 +163,17 @@ public final class ShareTable {
     }
 
     public int fuses() {
-        Groupings groupings = withPartitions();
+        Groupings groupings = history.now().groupings();
         return groupings == null ? NONE : groupings.partitionCount();
     }
 
     public int fusing(int i, int thing) {
-        Groupings groupings = withPartitions();
-        if (groupings == null || !groupings.hasPartition(i) || !history.now().has(thing)) {
-            return NONE;
-        }
-        return groupings.classOf(i, thing);
+        Groupings groupings = history.now().groupings();
+        return groupings == null || !groupings.hasPartition(i) ? NONE : groupings.classOf(i, thing);
     }
 
     public int fuse(int i) {
-        Groupings groupings = withPartitions();
+        Groupings groupings = history.now().groupings();
         if (groupings == null || !groupings.hasPartition(i)) {
             return NONE;
         }
@@ -270,15 +267,6 @@ public final class ShareTable {
             default:
                 return NONE;
         }
-    }
-
-    /** null: not GOOD. */
-    private Groupings withPartitions() {
-        Groupings groupings = history.now().groupings();
-        if (groupings != null) {
-            groupings.findPartitions();
-        }
-        return groupings;
     }
 
     /** Makes it the TABLE, unless it is REFUSED. */
@@ -586,6 +574,7 @@ public final class ShareTable {
         /** All SIZES multiplied: what is divided by some of them stays whole over it. */
         private final long common;
         private final long[] commonBySize = new long[MOST_THINGS];
+        private final long dualDown;
         private final int[] rowOf = new int[MOST_THINGS];
         private int found = 0;
         private boolean split = false;
@@ -599,6 +588,7 @@ public final class ShareTable {
                 product *= Math.max(1, table.size(i));
             }
             this.common = product;
+            this.dualDown = table.allSizes() * product * product;
             for (int i = 0; i < things; i++) {
                 commonBySize[i] = product / Math.max(1, table.size(i));
             }
@@ -635,11 +625,11 @@ public final class ShareTable {
 
         long dualAbove(int a, int b, int c) {
             long up = dualUp(a, b, c);
-            return lowered(up, commonDivisor(up, dualDown()));
+            return lowered(up, commonDivisor(up, dualDown));
         }
 
         long dualBelow(int a, int b, int c) {
-            return lowered(dualDown(), commonDivisor(dualUp(a, b, c), dualDown()));
+            return lowered(dualDown, commonDivisor(dualUp(a, b, c), dualDown));
         }
 
         boolean isOwnTwin() {
@@ -671,12 +661,11 @@ public final class ShareTable {
         }
 
         private boolean agreesUpTo(int thing) {
-            long down = dualDown();
             for (int i = 0; i <= thing; i++) {
                 for (int j = 0; j <= i; j++) {
                     for (int k = 0; k <= thing; k++) {
                         boolean isNew = i == thing || k == thing;
-                        if (isNew && dualUp(rowOf[i], rowOf[j], rowOf[k]) != table.share(i, j, k) * down) {
+                        if (isNew && dualUp(rowOf[i], rowOf[j], rowOf[k]) != table.share(i, j, k) * dualDown) {
                             return false;
                         }
                     }
@@ -832,10 +821,6 @@ public final class ShareTable {
             return countAbove(a) * countAbove(b) * sum;
         }
 
-        private long dualDown() {
-            return table.allSizes() * common * common;
-        }
-
         private static long lowered(long number, long divisor) {
             return divisor > 0 ? number / divisor : number;
         }
@@ -887,23 +872,21 @@ public final class ShareTable {
             return i >= 0 && i < partCount ? parts[i] : NONE;
         }
 
-        void findPartitions() {
+        int partitionCount() {
             if (partitionCount == NONE) {
                 partitionCount = 0;
                 extend(1, 0);
             }
-        }
-
-        int partitionCount() {
             return partitionCount;
         }
 
         boolean hasPartition(int i) {
-            return i >= 0 && i < partitionCount;
+            return i >= 0 && i < partitionCount();
         }
 
         int classOf(int i, int thing) {
-            return hasPartition(i) && table.has(thing) ? partitions[i] >> 4 * thing & 15 : 0;
+            boolean isThere = i >= 0 && i < partitionCount && table.has(thing);
+            return isThere ? partitions[i] >> (4 * thing) & 15 : NONE;
         }
 
         private boolean isClosed(int bits) {
@@ -945,7 +928,7 @@ public final class ShareTable {
             }
             int held = 0;
             for (int i = 0; i < things; i++) {
-                held |= trial[i] << 4 * i;
+                held |= trial[i] << (4 * i);
             }
             partitions[partitionCount] = held;
             partitionCount++;
@@ -1004,7 +987,7 @@ public final class ShareTable {
             int[] classOf = new int[MOST_THINGS];
             int greatest = 0;
             for (int thing = 0; thing < table.things(); thing++) {
-                classOf[thing] = groupings.classOf(i, thing);
+                classOf[thing] = Math.max(0, groupings.classOf(i, thing));
                 greatest = Math.max(greatest, classOf[thing]);
             }
             return gathered(table, classOf, greatest + 1, 1);
