@@ -34,6 +34,16 @@ final class Told {
         return x.scheme();
     }
 
+    /** The FAULT of a text that a new object reads as a TABLE. */
+    static int table(String text) {
+        return table(new ShareTable(), text);
+    }
+
+    /** The FAULT of a text that a new object reads as a SCHEME. */
+    static int scheme(String text) {
+        return scheme(new ShareTable(), text);
+    }
+
     static ShareTable ofTable(String text) {
         ShareTable x = new ShareTable();
         Check.due("table of " + text, table(x, text), 0);
@@ -44,6 +54,11 @@ final class Told {
         ShareTable x = new ShareTable();
         Check.due("scheme of " + text, scheme(x, text), 0);
         return x;
+    }
+
+    /** Two things, the other so large; GOOD. */
+    static String twoThings(int size) {
+        return "things 2; times 1 1 gives " + size + " of 0" + (size == 1 ? "" : " " + (size - 1) + " of 1") + ";";
     }
 
     static long row(ShareTable x, int row, int thing) {
