@@ -31,6 +31,7 @@ final class LawBoundsTest {
         splitOrNot();
         dualArguments();
         dualNumbers();
+        greatestDuals();
         twinOrNot();
         stepsUpToTen();
         mixedWithinTen();
@@ -315,6 +316,51 @@ final class LawBoundsTest {
         Check.due("as many as its count, below", Told.dual(x, 0, 0, 2, 1), 1);
     }
 
+    /** The points of a plane of seven by seven, their eight directions in five things: SIZES as large as six things have them. */
+    private static String plane(int[] directions) {
+        StringBuilder text = new StringBuilder("things 6;");
+        for (int i = 1; i < 6; i++) {
+            for (int j = 1; j <= i; j++) {
+                text.append("times ").append(i).append(' ').append(j).append("gives");
+                text.append(i == j ? " " + 6 * directions[i] + "of 0" : "");
+                for (int k = 1; k < 6; k++) {
+                    int a = directions[i] - (k == i ? 1 : 0);
+                    int b = directions[j] - (k == j || i == j ? 1 : 0);
+                    int share = i == j && i == k ? 5 + a * (a - 1) : a * b;
+                    text.append(share > 0 ? " " + share + "of " + k : "");
+                }
+                text.append(';');
+            }
+        }
+        return text.toString();
+    }
+
+    /** DUAL numbers where they are made of the greatest ones: of ROW k all are of the SIZE of k, so it is its own TWIN. */
+    private static void greatestDuals() {
+        int[] directions = {0, 1, 2, 2, 2, 1};
+        String text = plane(directions);
+        ShareTable x = Told.ofTable(text);
+        Oracle o = new Oracle();
+        for (int at = 0; at < text.length(); at += 24) {
+            o.feed(Told.bytes(text, at), Told.bytes(text, at + 8), Told.bytes(text, at + 16));
+        }
+        Check.due("read by the oracle", o.table(), 0);
+        Check.due("good", x.law(0), 0);
+        Check.due("order", x.order(), 49);
+        Check.due("rows", x.rows(), 6);
+        for (int row = 0; row < 6; row++) {
+            Check.due("count " + row, x.counts(row, 0), o.counts(row, 0));
+        }
+        for (int spot = 0; spot < 216; spot++) {
+            int a = spot / 36;
+            int b = spot / 6 % 6;
+            int c = spot % 6;
+            Check.due("dual " + a + " " + b + " " + c, Told.dual(x, a, b, c, 0), o.dual(a, b, c, 0));
+            Check.due("whole " + a + " " + b + " " + c, Told.dual(x, a, b, c, 1), 1);
+        }
+        Check.due("its own", x.twin(), 1);
+    }
+
     /** "Whether it is its own TWIN: 1 or 0; NONE: not SPLIT". */
     private static void twinOrNot() {
         Check.due("one thing", new ShareTable().twin(), 1);
@@ -373,6 +419,11 @@ final class LawBoundsTest {
         Check.due("one thing at once", new ShareTable().mixed(0), 0);
         for (int n = 3; n <= 11; n += 2) {
             Check.due("a ring of " + n, Told.ofScheme("points " + n + " colour ring;").mixed(1), n - 1);
+        }
+        ShareTable eleven = Told.ofScheme("points 11 colour ring;");
+        for (int by = 1; by <= 5; by++) {
+            // it comes to each other point of the ring first, and to where its one step leads last
+            Check.due("a ring of 11 by " + by, eleven.mixed(by), 10);
         }
         for (int n = 4; n <= 10; n += 2) {
             Check.due("a ring of " + n + " never", Told.ofScheme("points " + n + " colour ring;").mixed(1), NONE);

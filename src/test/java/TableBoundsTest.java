@@ -89,6 +89,13 @@ final class TableBoundsTest {
             fault(text, again ? 3 : 1, again ? 35 : 36);
             fault(text + " gives;", again ? 3 : 0, again ? 35 : 0);
         }
+        for (int i = 1; i < 6; i++) {
+            for (int j = 1; j < 6; j++) {
+                String line = "times " + i + " " + j + " gives;";
+                fault(SIX + line, 0, 0);
+                fault(SIX + line + line, 3, 9 + 16 + 8);
+            }
+        }
     }
 
     /** "put together in both orders they give so". */
@@ -206,7 +213,10 @@ final class TableBoundsTest {
             }
         }
         int length = all.length();
+        Check.due("all told once more", Told.table(x, all.toString()), 0);
+        Check.due("all told once more, the last", x.gives(5, 5, 5), 55);
         fault(all + "times 1 1", 3, length + 8);
+        fault(all + "times 5 5", 3, length + 8);
         fault(all + "reverse 5 1", 3, length + 10);
     }
 

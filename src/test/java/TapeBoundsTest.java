@@ -15,6 +15,7 @@ final class TapeBoundsTest {
         longWords();
         longNumbers();
         otherSigns();
+        signsForNumbers();
         signsInFormulas();
         Check.end("TapeBoundsTest");
     }
@@ -194,6 +195,17 @@ final class TapeBoundsTest {
             if (!isDigit && sign != ';') {
                 Check.due(sign + " ahead", Told.table(sign + " things 2;"), 1);
             }
+        }
+    }
+
+    /** Where a NUMBER must stand nothing else is taken for one, nor where a PART must. */
+    private static void signsForNumbers() {
+        for (char sign = 33; sign < 127; sign++) {
+            boolean isDigit = sign >= '0' && sign <= '9';
+            boolean fits = sign >= '1' && sign <= '6';
+            Check.due("things " + sign, Told.table("things " + sign), fits ? 1 + 16 * 8 : isDigit ? 4 + 16 * 7 : 1 + 16 * 7);
+            boolean starts = isDigit || sign == '(' || sign == 'x' || sign == 'y';
+            Check.due("colour " + sign, Told.scheme("points 3 colour " + sign), 1 + 16 * (starts ? 17 : 16));
         }
     }
 
