@@ -1,4 +1,4 @@
-/** An object's use ends with its 512th call: each call keeps its promise at each of them, by the Oracle. */
+/** An object's use ends with its 512th call: behind a short beginning each call is made up to it, and compared with the Oracle. */
 final class CallsTest {
     private static final int CALLS = 512;
     private static final String SIX = "things 6;times 1 1 gives 3 of 0 2 of 1;times 2 1 gives 1 of 3 1 of 4 1 of 5;"
@@ -18,7 +18,7 @@ final class CallsTest {
     }
 
     public static void main(String[] args) {
-        for (int which = 0; which < 30; which++) {
+        for (int which = 0; which < 32; which++) {
             new CallsTest("call " + which).run(which);
         }
         Check.end("CallsTest");
@@ -104,6 +104,8 @@ final class CallsTest {
             case 26: read("points " + n % 14 + " colour ring;", true); break;
             case 27: due(n % 2 == 0 ? x.fuses() : x.fuse(n % 9), n % 2 == 0 ? o.fuses() : o.fuse(n % 9)); break;
             case 28: due(x.count(n % 6 - 1), o.count(n % 6 - 1)); break;
+            case 29: due(x.parts(), o.parts()); break;
+            case 30: due(x.kind(3 + n / 5, 1 + n % 9, n % 3, n % 4), o.kind(3 + n / 5, 1 + n % 9, n % 3, n % 4)); break;
             default: due(x.why(), o.why());
         }
     }
